@@ -815,7 +815,7 @@ public final class BookIndex {
 
         int daysIn(int from, int to) {
             int first = Math.max(from, start);
-            int last = Math.min(Calendar.monthOf(to), Calendar.MONTHS - 1);
+            int last = Calendar.monthOf(to);
             int days = 0;
             for (int month = monthFrom(first); month <= last; month += step) {
                 int on = dayIn(month);

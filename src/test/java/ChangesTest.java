@@ -133,6 +133,22 @@ public final class ChangesTest {
         Check.due("not on its key", x.count(0, 10, 10), 0);
     }
 
+    private static void keyZero() {
+        BookIndex x = new BookIndex();
+        Check.book(x, "book 1 at 0 for 30 every 1 days from 2000 1 1 times 3");
+        Check.due("key 0 at time 0", x.next(0, 0, 1), 0);
+        Check.due("time 0", x.next(0, 0, 0), 0);
+        Check.due("time 0 is ahead of 1", x.ahead(0, 1, 0), 0);
+        Check.due("minute 0 of the next day is not counted", x.count(0, 0, 0), 1);
+        x.move(0, 0, 1440);
+        Check.due("key 0 moved to another one's time", x.next(0, 1440, 1), 0);
+        Check.due("the other one is the last there", x.ahead(0, 1441, 1), 1);
+        Check.due("nothing ahead of it", x.ahead(0, 1440, 1), -1);
+        x.drop(0, 0);
+        Check.due("key 0 dropped", x.restore(0, 0), 1);
+        Check.due("key 0 as at first", x.next(0, 0, 1), 0);
+    }
+
     public static void main(String[] args) {
         dropped();
         moved();
@@ -141,6 +157,7 @@ public final class ChangesTest {
         order();
         nextAndAhead();
         counted();
+        keyZero();
         Check.close();
     }
 }

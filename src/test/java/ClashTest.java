@@ -83,6 +83,27 @@ public final class ClashTest {
         Check.due("and the next", x.clash(1, 0, Check.time(32 * 35, 1)), Check.time(33 * 35, 0));
     }
 
+    private static void minutes() {
+        BookIndex x = two("book 0 at 1438 for 2 once from 2000 1 3", "book 1 at 1439 for 2 once from 2000 1 3");
+        Check.due("at a day's last minute", x.clashes(0, 1, 2, 2), 1);
+        Check.due("at a day's last minute, the other way", x.clashes(1, 0, 2, 2), 1);
+        Check.due("not on the next day", x.clashes(0, 1, 3, 3), 0);
+        x.move(0, 2, 0);
+        x.move(1, 2, 0);
+        Check.due("at time 0", x.clash(0, 1, 0), 0);
+        Check.due("at time 0, counted", x.clashes(0, 1, 0, 0), 1);
+        x.move(1, 2, 1);
+        Check.due("at time 1", x.clash(1, 0, 0), 1);
+        x.move(0, 2, 2);
+        Check.due("at time 2", x.clash(1, 0, 0), 2);
+        Check.due("at time 2, asked there", x.clash(1, 0, 2), 2);
+        x.move(0, 2, 3);
+        Check.due("one behind the other", x.clash(1, 0, 0), -1);
+        BookIndex y = two("book 0 at 0 for 1 every 1 days from 2000 1 1", "book 1 at 0 for 1 every 2 days from 2000 1 1");
+        Check.due("keys 0", y.clash(0, 1, 0), 0);
+        Check.due("keys 0 of a room", y.clashes(0, 1, 0, 0), 1);
+    }
+
     private static void begunEarlier() {
         BookIndex x = two("book 0 at 1439 for 4320 once from 2000 1 1", "book 1 at 1438 for 1 every 1 days from 2000 1 1 times 9");
         Check.due("the first", x.clash(0, 1, 0), Check.time(1, 1438));
@@ -120,6 +141,7 @@ public final class ClashTest {
         sparse();
         never();
         spoilt();
+        minutes();
         begunEarlier();
         room();
         Check.close();

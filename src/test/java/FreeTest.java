@@ -70,6 +70,25 @@ public final class FreeTest {
         Check.due("its like", x.busy(2, 11), 999);
     }
 
+    private static void oneMinute() {
+        BookIndex x = new BookIndex();
+        Check.book(x, "book 1 at 0 for 1 every 1 days from 2000 1 1");
+        Check.book(x, "book 1 at 2 for 1 every 1 days from 2000 1 2");
+        Check.book(x, "book 1 at 1439 for 1 every 1 days from 2000 1 2");
+        Check.due("day 0", x.busy(1, 0), 1);
+        Check.due("day 1", x.busy(1, 1), 3);
+        Check.due("one minute is the most", x.busiest(1, 0, 0), 0);
+        Check.due("free at minute 1", x.free(1, 1440, 1), 1441);
+        Check.due("free at minute 3", x.free(1, 1440, 2), 1443);
+        Check.book(x, "book 2 at 7 for 1 once from 2000 1 9");
+        Check.due("one minute of one day", x.busiest(2, 0, 20), 8);
+        for (int i = 3; i < 10; i++) {
+            Check.book(x, "book 3 at " + 2 * i + " for 1 every 1 days from 2000 1 1");
+        }
+        Check.due("every other minute", x.busy(3, 0), 7);
+        Check.due("no two of them", x.free(3, 6, 2), 19);
+    }
+
     private static void busiest() {
         BookIndex x = new BookIndex();
         Check.book(x, "book 1 at 0 for 20 every 2 days from 2000 1 11 times 20");
@@ -79,6 +98,7 @@ public final class FreeTest {
         Check.due("behind it", x.busiest(1, 11, 59), 16);
         Check.due("the less busy", x.busiest(1, 11, 15), 12);
         Check.due("one day", x.busiest(1, 13, 13), 13);
+        Check.due("the last of them", x.busiest(1, 14, 16), 16);
         Check.due("60 days", x.busiest(1, 100, 159), 100);
         Check.due("61 days", x.busiest(1, 100, 160), -1);
         Check.due("backwards", x.busiest(1, 11, 10), -1);
@@ -94,6 +114,7 @@ public final class FreeTest {
         farthest();
         lastDay();
         busyDays();
+        oneMinute();
         busiest();
         Check.close();
     }

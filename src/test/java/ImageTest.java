@@ -78,6 +78,26 @@ public final class ImageTest {
         Check.due("its keys", x.keys(0, 0, 36524), 36525);
     }
 
+    /** What a split goes by is in an image, too. */
+    private static void splitBehindAnImage() {
+        BookIndex x = new BookIndex();
+        Check.book(x, "book 3" + TEXT + " times 600");
+        x.split(0, 100);
+        x.image(0);
+        x.cancel(0);
+        Check.book(x, "book 4 at 5 for 10 every 9 days from 2000 1 1");
+        Check.book(x, "book 4 at 5 for 10 every 9 days from 2000 1 1 until 2000 3 1");
+        x.back(0);
+        Check.due("the tail split", x.split(1, 400), 2);
+        Check.due("its first key", x.of(1, 12), 100);
+        Check.due("its times", x.of(1, 9), 300);
+        Check.due("its tail's times", x.of(2, 9), 200);
+        Check.due("its tail's first key", x.of(2, 12), 400);
+        Check.due("the head split", x.split(0, 40), 3);
+        Check.due("its times", x.of(0, 9), 40);
+        Check.due("its tail's times", x.of(3, 9), 60);
+    }
+
     private static void told() {
         BookIndex x = rooms(0, 7, 7);
         Check.due("bookings", x.told(0), 3);
@@ -92,6 +112,7 @@ public final class ImageTest {
         cancel();
         images();
         again();
+        splitBehindAnImage();
         told();
         Check.close();
     }

@@ -59,6 +59,27 @@ public final class OnTest {
         at(x, 2, 1, 1, 9, time);
     }
 
+    /** Moved to one time: keys next to each other, and one that is there by its rule. */
+    private static void likeTimes() {
+        BookIndex x = new BookIndex();
+        Check.book(x, "book 1 at 30 for 10 every 1 days from 2000 1 1 times 9");
+        int time = Check.time(5, 30);
+        x.move(0, 3, time);
+        x.move(0, 4, time);
+        x.move(0, 0, time);
+        x.move(0, 1, time);
+        int[] keys = {0, 1, 3, 4, 5};
+        Check.due("five at once", x.on(1, time, time + 1), 5);
+        for (int i = 0; i < keys.length; i++) {
+            Check.due(i + "-th of like times", Check.onAt(x, 1, time, time + 1, i, 1), keys[i]);
+            Check.due(i + "-th of like times, from ahead", Check.onAt(x, 1, time - 9, time + 1, i, 1), keys[i]);
+            Check.due(i + "-th of like times, at their end", Check.onAt(x, 1, time + 9, time + 10, i, 1), keys[i]);
+        }
+        Check.book(x, "book 1 at 30 for 10 once from 2000 1 6");
+        Check.due("each clashes", x.clashes(0, 1, 5, 5), 5);
+        Check.due("each clashes, asked the other way", x.clashes(1, 0, 5, 5), 5);
+    }
+
     private static void noSuch() {
         BookIndex x = three();
         int from = Check.time(4, 0);
@@ -78,6 +99,7 @@ public final class OnTest {
     public static void main(String[] args) {
         spans();
         inOrder();
+        likeTimes();
         noSuch();
         Check.close();
     }

@@ -71,6 +71,19 @@ public final class SplitTest {
         Check.due("room for changes of the new one", x.drop(1, 39), true);
     }
 
+    private static void fromKeyZero() {
+        BookIndex x = new BookIndex();
+        Check.book(x, "book 3 at 5 for 10 every 1 days from 2000 1 1 times 40");
+        Check.due("key 0 alone ahead", x.split(0, 1), 1);
+        Check.due("one", x.of(0, 9), 1);
+        Check.due("and the others", x.of(1, 9), 39);
+        x.drop(1, 30);
+        x.restore(1, 30);
+        Check.due("behind a restored change", x.split(1, 20), 2);
+        Check.due("none moved", x.of(1, 11), 0);
+        Check.due("none moved of the new one", x.of(2, 11), 0);
+    }
+
     private static int period(BookIndex x, String rule) {
         return x.period(Check.book(x, "book 3 at 5 for 10 " + rule + " from 2000 1 1 times 4"));
     }
@@ -106,6 +119,7 @@ public final class SplitTest {
         withUntil();
         withTimes();
         changesGoAlong();
+        fromKeyZero();
         periods();
         Check.close();
     }

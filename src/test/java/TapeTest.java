@@ -118,6 +118,14 @@ public final class TapeTest {
     }
 
     private static void misplaced() {
+        fault("once from 2000 1 1 x", 0, 1);
+        fault("1 at 0 for 1 once from 2000 1 1 x", 0, 1);
+        fault("bookz 1", 0, 1);
+        fault("booka 1", 0, 1);
+        fault("book{1", 4, 1);
+        fault("book`1", 4, 1);
+        fault("book/1", 4, 1);
+        fault("book:1", 4, 1);
         fault("Book 1", 0, 1);
         fault("bOok 1", 0, 1);
         fault("books 1", 0, 1);
@@ -199,6 +207,17 @@ public final class TapeTest {
         good(HEAD + "once from 2023 2 28 until 2023 2 28");
     }
 
+    /** What stood on the tape behind its end is no part of the text. */
+    private static void behindTheEnd() {
+        BookIndex x = new BookIndex();
+        x.feed(0x626f6f6b20202020L, 0x2020202020202020L, 0x2020202020202020L);
+        x.end(4);
+        Check.due("blanks behind the end", x.book(), -2 - (8 * 4 + 1));
+        x.feed(0x626f6f6b20323132L, 0x3132313231323132L, 0x3132313231323132L);
+        x.end(6);
+        Check.due("digits behind the end", x.book(), -2 - (8 * 6 + 1));
+    }
+
     private static void refusals() {
         BookIndex x = new BookIndex();
         String text = "book 0 at 0 for 1 once from 2000 1 1";
@@ -226,6 +245,7 @@ public final class TapeTest {
         misplaced();
         outOfBounds();
         untilAhead();
+        behindTheEnd();
         refusals();
         Check.close();
     }
