@@ -101,7 +101,10 @@ public final class ClashTest {
         Check.due("one behind the other", x.clash(1, 0, 0), -1);
         BookIndex y = two("book 0 at 0 for 1 every 1 days from 2000 1 1", "book 1 at 0 for 1 every 2 days from 2000 1 1");
         Check.due("keys 0", y.clash(0, 1, 0), 0);
-        Check.due("keys 0 of a room", y.clashes(0, 1, 0, 0), 1);
+        Check.due("keys 0, counted", y.clashes(0, 1, 0, 0), 1);
+        BookIndex z = two("book 0 at 0 for 10 once from 2000 1 1", "book 1 at 1 for 1 once from 2000 1 1");
+        Check.due("key 0 a minute behind key 0", z.clash(0, 1, 0), 1);
+        Check.due("key 0 a minute ahead of key 0", z.clash(1, 0, 1), 1);
     }
 
     private static void begunEarlier() {
