@@ -5,15 +5,21 @@ import java.util.NoSuchElementException;
 final class Check {
     private static int checked = 0;
     private static int wrong = 0;
+    private static String sentence = "";
 
     private Check() {
+    }
+
+    /** The document's words that the answers from here on are due by. */
+    static void says(String words) {
+        sentence = "\"" + words + "\": ";
     }
 
     static void due(String call, long got, long want) {
         checked++;
         if (got != want) {
             wrong++;
-            System.out.println(call + " answered " + got + ", due is " + want);
+            System.out.println(sentence + call + " answered " + got + ", due is " + want);
         }
     }
 

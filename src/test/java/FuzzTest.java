@@ -296,7 +296,8 @@ public final class FuzzTest {
     }
 
     private boolean run() {
-        for (int i = 0; i < 120 && good; i++) {
+        // An object is used for at most 512 calls; a text takes a dozen.
+        for (int i = 0; i < 120 && good && calls.size() < 480; i++) {
             int kind = random.nextInt(10);
             if (m.told(0) == 0 || m.told(0) < 4 && kind == 0 || random.nextInt(25) == 0) {
                 feedText(text());

@@ -2,7 +2,9 @@ import java.lang.management.ManagementFactory;
 
 /** All calls of a run share one room: what the dearest calls make is counted in bytes. */
 public final class RoomTest {
-    private static final long MOST_BYTES = 400_000;
+    private static final long MOST_BYTES = 50_000;
+    /** An object is used for at most 512 calls. */
+    private static final int ROUNDS = 60;
 
     private static long made() {
         com.sun.management.ThreadMXBean bean =
@@ -21,7 +23,7 @@ public final class RoomTest {
     private static void dearest() {
         BookIndex x = full();
         long before = made();
-        for (int i = 0; i < 512; i++) {
+        for (int i = 0; i < ROUNDS; i++) {
             x.roomClash(1, i, 0);
             x.clashes(0, 1, 100, 499);
             x.onAt(-1, 0, 86400, 500, 0);
@@ -38,7 +40,7 @@ public final class RoomTest {
         byte[] text = "book 1 at 0 for 1 every 1 months on 1 from 2000 1 1     ".getBytes(
                 java.nio.charset.StandardCharsets.ISO_8859_1);
         long before = made();
-        for (int i = 0; i < 512; i++) {
+        for (int i = 0; i < ROUNDS; i++) {
             x.cancel(11);
             for (int k = 0; k < text.length; k += 24) {
                 x.feed(Check.eight(text, k), Check.eight(text, k + 8), Check.eight(text, k + 16));

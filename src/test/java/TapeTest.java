@@ -1,6 +1,6 @@
 /** Promises 1 to 4: a new object, feed, end, book with its faults. */
 public final class TapeTest {
-    private static final String HEAD = "book 1 at 0 for 1 ";
+    private static final String HEAD = Texts.HEAD;
 
     private static void newObject() {
         BookIndex x = new BookIndex();
@@ -60,151 +60,137 @@ public final class TapeTest {
         Check.due("told 0", x.told(1), 0);
     }
 
-    private static void fault(String text, int place, int kind) {
-        BookIndex x = new BookIndex();
-        Check.due("'" + text + "'", Check.book(x, text), -2 - (8 * place + kind));
-        Check.due("none of '" + text + "'", x.told(0), 0);
-        Check.due("tape behind '" + text + "'", x.told(1), 0);
-    }
-
-    private static void good(String text) {
-        BookIndex x = new BookIndex();
-        Check.due("'" + text + "'", Check.book(x, text), 0);
-        Check.due("one of '" + text + "'", x.told(0), 1);
-        Check.due("tape behind '" + text + "'", x.told(1), 0);
-    }
-
     private static void goodTexts() {
-        good("book 0 at 0 for 1 once from 2000 1 1");
-        good("book 7 at 1439 for 4320 once from 2099 12 31");
-        good("book7at1439for4320once from2099 12 31until2099 12 31");
-        good("book7at1439for4320every999days from2000 2 29times999");
-        good("  book  0007 at 0 for 1 every 0001 weeks mon tue wed thu fri sat sun from 2000 01 01  ");
-        good(HEAD + "every 1 months on 31 from 2001 2 28 times 1");
-        good(HEAD + "every 999 months end 28 from 2001 2 28 until 2001 2 28");
-        good(HEAD + "every 1 months nth 5 sun from 2001 2 28");
-        good(HEAD + "every 1 months last mon from 2001 2 28");
-        good(HEAD + "every 999 years from 2004 2 29");
-        good("book 0 at 0 for 1 once from 2000 1 1" + " ".repeat(124));
+        Texts.good("book 0 at 0 for 1 once from 2000 1 1");
+        Texts.good("book 7 at 1439 for 4320 once from 2099 12 31");
+        Texts.good("book7at1439for4320once from2099 12 31until2099 12 31");
+        Texts.good("book7at1439for4320every999days from2000 2 29times999");
+        Texts.good("  book  0007 at 0 for 1 every 0001 weeks mon tue wed thu fri sat sun from 2000 01 01  ");
+        Texts.good(HEAD + "every 1 months on 31 from 2001 2 28 times 1");
+        Texts.good(HEAD + "every 999 months end 28 from 2001 2 28 until 2001 2 28");
+        Texts.good(HEAD + "every 1 months nth 5 sun from 2001 2 28");
+        Texts.good(HEAD + "every 1 months last mon from 2001 2 28");
+        Texts.good(HEAD + "every 999 years from 2004 2 29");
+        Texts.good("book 0 at 0 for 1 once from 2000 1 1" + " ".repeat(124));
     }
 
     private static void ends() {
         String whole = "book 1 at 0 for 1 every 1 weeks mon from 2023 2 28 until 2023 3 1";
-        fault("", 0, 1);
-        fault("   ", 3, 1);
-        fault("book ", 5, 1);
-        fault("book 1", 6, 1);
-        fault("book 1 at", 9, 1);
-        fault("book 1 at 0", 11, 1);
-        fault("book 1 at 0 for", 15, 1);
-        fault("book 1 at 0 for 1", 17, 1);
-        fault("book 1 at 0 for 1 every", 23, 1);
-        fault("book 1 at 0 for 1 every 1", 25, 1);
-        fault("book 1 at 0 for 1 every 1 weeks", 31, 1);
-        fault("book 1 at 0 for 1 every 1 weeks mon", 35, 1);
-        fault(whole.substring(0, 40), 40, 1);
-        fault(whole.substring(0, 45), 45, 1);
-        fault(whole.substring(0, 47), 47, 1);
-        fault(whole.substring(0, 56), 56, 1);
-        fault(whole.substring(0, 61), 61, 1);
-        fault(whole.substring(0, 63) + "  ", 65, 1);
-        fault(HEAD + "once from 2000 1 1 times", 42, 1);
-        fault(HEAD + "every 1 months", 32, 1);
-        fault(HEAD + "every 1 months on", 35, 1);
-        fault(HEAD + "every 1 months end", 36, 1);
-        fault(HEAD + "every 1 months nth", 36, 1);
-        fault(HEAD + "every 1 months nth 1", 38, 1);
-        fault(HEAD + "every 1 months last", 37, 1);
+        Texts.fault("", 0, 1);
+        Texts.fault("   ", 3, 1);
+        Texts.fault("book ", 5, 1);
+        Texts.fault("book 1", 6, 1);
+        Texts.fault("book 1 at", 9, 1);
+        Texts.fault("book 1 at 0", 11, 1);
+        Texts.fault("book 1 at 0 for", 15, 1);
+        Texts.fault("book 1 at 0 for 1", 17, 1);
+        Texts.fault("book 1 at 0 for 1 every", 23, 1);
+        Texts.fault("book 1 at 0 for 1 every 1", 25, 1);
+        Texts.fault("book 1 at 0 for 1 every 1 weeks", 31, 1);
+        Texts.fault("book 1 at 0 for 1 every 1 weeks mon", 35, 1);
+        Texts.fault(whole.substring(0, 40), 40, 1);
+        Texts.fault(whole.substring(0, 45), 45, 1);
+        Texts.fault(whole.substring(0, 47), 47, 1);
+        Texts.fault(whole.substring(0, 56), 56, 1);
+        Texts.fault(whole.substring(0, 61), 61, 1);
+        Texts.fault(whole.substring(0, 63) + "  ", 65, 1);
+        Texts.fault(HEAD + "once from 2000 1 1 times", 42, 1);
+        Texts.fault(HEAD + "every 1 months", 32, 1);
+        Texts.fault(HEAD + "every 1 months on", 35, 1);
+        Texts.fault(HEAD + "every 1 months end", 36, 1);
+        Texts.fault(HEAD + "every 1 months nth", 36, 1);
+        Texts.fault(HEAD + "every 1 months nth 1", 38, 1);
+        Texts.fault(HEAD + "every 1 months last", 37, 1);
     }
 
     private static void misplaced() {
-        fault("once from 2000 1 1 x", 0, 1);
-        fault("1 at 0 for 1 once from 2000 1 1 x", 0, 1);
-        fault("bookz 1", 0, 1);
-        fault("booka 1", 0, 1);
-        fault("book{1", 4, 1);
-        fault("book`1", 4, 1);
-        fault("book/1", 4, 1);
-        fault("book:1", 4, 1);
-        fault("Book 1", 0, 1);
-        fault("bOok 1", 0, 1);
-        fault("books 1", 0, 1);
-        fault("boo 1", 0, 1);
-        fault("1", 0, 1);
-        fault("#", 0, 1);
-        fault("\0book 1", 0, 1);
-        fault("book\t1", 4, 1);
-        fault("book one", 5, 1);
-        fault("book -1", 5, 1);
-        fault("book 1#", 6, 1);
-        fault("book 1 1", 7, 1);
-        fault("book 12345", 5, 1);
-        fault("book 00001", 5, 1);
-        fault("book 1 for", 7, 1);
-        fault("book 1 at 10000", 10, 1);
-        fault("book 1 at 0 at", 12, 1);
-        fault("book 1 at 0 for once", 16, 1);
-        fault(HEAD + "twice", 18, 1);
-        fault(HEAD + "oncefrom", 18, 1);
-        fault(HEAD + "every days", 24, 1);
-        fault(HEAD + "every 1 day", 26, 1);
-        fault(HEAD + "every 1 once", 26, 1);
-        fault(HEAD + "every 1 weeks from", 32, 1);
-        fault(HEAD + "every 1 weeks monday", 32, 1);
-        fault(HEAD + "every 1 weeks montue", 32, 1);
-        fault(HEAD + "every 1 weeks ont", 32, 1);
-        fault(HEAD + "every 1 weeks mo", 32, 1);
-        fault(HEAD + "every 1 weeks mon 1", 36, 1);
-        fault(HEAD + "every 1 months mon", 33, 1);
-        fault(HEAD + "every 1 months 5", 33, 1);
-        fault(HEAD + "every 1 months on mon", 36, 1);
-        fault(HEAD + "every 1 months nth mon", 37, 1);
-        fault(HEAD + "every 1 months nth 1 last", 39, 1);
-        fault(HEAD + "every 1 months nth 1 mon tue", 43, 1);
-        fault(HEAD + "every 1 months last 1", 38, 1);
-        fault(HEAD + "once until", 23, 1);
-        fault(HEAD + "once from 20000 1 1", 28, 1);
-        fault(HEAD + "once from 2000 1 1 1", 37, 1);
-        fault(HEAD + "once from 2000 1 1 from", 37, 1);
-        fault(HEAD + "once from 2000 1 1 times 2 until 2000 1 2", 45, 1);
-        fault(HEAD + "once from 2000 1 1 until 2000 1 2 times 2", 52, 1);
-        fault(HEAD + "once from 2000 1 1 until 2000 1 2.", 51, 1);
-        fault(HEAD + "once from 2000 1 1 times 10000", 43, 1);
+        Texts.fault("once from 2000 1 1 x", 0, 1);
+        Texts.fault("1 at 0 for 1 once from 2000 1 1 x", 0, 1);
+        Texts.fault("bookz 1", 0, 1);
+        Texts.fault("booka 1", 0, 1);
+        Texts.fault("book{1", 4, 1);
+        Texts.fault("book`1", 4, 1);
+        Texts.fault("book/1", 4, 1);
+        Texts.fault("book:1", 4, 1);
+        Texts.fault("Book 1", 0, 1);
+        Texts.fault("bOok 1", 0, 1);
+        Texts.fault("books 1", 0, 1);
+        Texts.fault("boo 1", 0, 1);
+        Texts.fault("1", 0, 1);
+        Texts.fault("#", 0, 1);
+        Texts.fault("\0book 1", 0, 1);
+        Texts.fault("book\t1", 4, 1);
+        Texts.fault("book one", 5, 1);
+        Texts.fault("book -1", 5, 1);
+        Texts.fault("book 1#", 6, 1);
+        Texts.fault("book 1 1", 7, 1);
+        Texts.fault("book 12345", 5, 1);
+        Texts.fault("book 00001", 5, 1);
+        Texts.fault("book 1 for", 7, 1);
+        Texts.fault("book 1 at 10000", 10, 1);
+        Texts.fault("book 1 at 0 at", 12, 1);
+        Texts.fault("book 1 at 0 for once", 16, 1);
+        Texts.fault(HEAD + "twice", 18, 1);
+        Texts.fault(HEAD + "oncefrom", 18, 1);
+        Texts.fault(HEAD + "every days", 24, 1);
+        Texts.fault(HEAD + "every 1 day", 26, 1);
+        Texts.fault(HEAD + "every 1 once", 26, 1);
+        Texts.fault(HEAD + "every 1 weeks from", 32, 1);
+        Texts.fault(HEAD + "every 1 weeks monday", 32, 1);
+        Texts.fault(HEAD + "every 1 weeks montue", 32, 1);
+        Texts.fault(HEAD + "every 1 weeks ont", 32, 1);
+        Texts.fault(HEAD + "every 1 weeks mo", 32, 1);
+        Texts.fault(HEAD + "every 1 weeks mon 1", 36, 1);
+        Texts.fault(HEAD + "every 1 months mon", 33, 1);
+        Texts.fault(HEAD + "every 1 months 5", 33, 1);
+        Texts.fault(HEAD + "every 1 months on mon", 36, 1);
+        Texts.fault(HEAD + "every 1 months nth mon", 37, 1);
+        Texts.fault(HEAD + "every 1 months nth 1 last", 39, 1);
+        Texts.fault(HEAD + "every 1 months nth 1 mon tue", 43, 1);
+        Texts.fault(HEAD + "every 1 months last 1", 38, 1);
+        Texts.fault(HEAD + "once until", 23, 1);
+        Texts.fault(HEAD + "once from 20000 1 1", 28, 1);
+        Texts.fault(HEAD + "once from 2000 1 1 1", 37, 1);
+        Texts.fault(HEAD + "once from 2000 1 1 from", 37, 1);
+        Texts.fault(HEAD + "once from 2000 1 1 times 2 until 2000 1 2", 45, 1);
+        Texts.fault(HEAD + "once from 2000 1 1 until 2000 1 2 times 2", 52, 1);
+        Texts.fault(HEAD + "once from 2000 1 1 until 2000 1 2.", 51, 1);
+        Texts.fault(HEAD + "once from 2000 1 1 times 10000", 43, 1);
     }
 
     private static void outOfBounds() {
-        fault("book 8 x", 5, 2);
-        fault("book 9999", 5, 2);
-        fault("book 1 at 1440", 10, 2);
-        fault("book 1 at 0 for 0", 16, 2);
-        fault("book 1 at 0 for 4321", 16, 2);
-        fault(HEAD + "every 0 days", 24, 2);
-        fault(HEAD + "every 1000 days", 24, 2);
-        fault(HEAD + "every 1 weeks mon tue mon", 40, 2);
-        fault(HEAD + "every 1 weeks mon tue wed thu fri sat sun sun", 60, 2);
-        fault(HEAD + "every 1 months on 0", 36, 2);
-        fault(HEAD + "every 1 months on 32", 36, 2);
-        fault(HEAD + "every 1 months end 0", 37, 2);
-        fault(HEAD + "every 1 months end 29", 37, 2);
-        fault(HEAD + "every 1 months nth 0 x", 37, 2);
-        fault(HEAD + "every 1 months nth 6 x", 37, 2);
-        fault(HEAD + "once from 1999 1 1", 28, 2);
-        fault(HEAD + "once from 2100 1 1", 28, 2);
-        fault(HEAD + "once from 2000 0 1", 33, 2);
-        fault(HEAD + "once from 2000 13 1", 33, 2);
-        fault(HEAD + "once from 2000 1 0", 35, 2);
-        fault(HEAD + "once from 2000 4 31", 35, 2);
-        fault(HEAD + "once from 2099 2 29", 35, 2);
-        fault(HEAD + "once from 2000 1 1 times 0", 43, 2);
-        fault(HEAD + "once from 2000 1 1 times 1000", 43, 2);
+        Texts.fault("book 8 x", 5, 2);
+        Texts.fault("book 9999", 5, 2);
+        Texts.fault("book 1 at 1440", 10, 2);
+        Texts.fault("book 1 at 0 for 0", 16, 2);
+        Texts.fault("book 1 at 0 for 4321", 16, 2);
+        Texts.fault(HEAD + "every 0 days", 24, 2);
+        Texts.fault(HEAD + "every 1000 days", 24, 2);
+        Texts.fault(HEAD + "every 1 weeks mon tue mon", 40, 2);
+        Texts.fault(HEAD + "every 1 weeks mon tue wed thu fri sat sun sun", 60, 2);
+        Texts.fault(HEAD + "every 1 months on 0", 36, 2);
+        Texts.fault(HEAD + "every 1 months on 32", 36, 2);
+        Texts.fault(HEAD + "every 1 months end 0", 37, 2);
+        Texts.fault(HEAD + "every 1 months end 29", 37, 2);
+        Texts.fault(HEAD + "every 1 months nth 0 x", 37, 2);
+        Texts.fault(HEAD + "every 1 months nth 6 x", 37, 2);
+        Texts.fault(HEAD + "once from 1999 1 1", 28, 2);
+        Texts.fault(HEAD + "once from 2100 1 1", 28, 2);
+        Texts.fault(HEAD + "once from 2000 0 1", 33, 2);
+        Texts.fault(HEAD + "once from 2000 13 1", 33, 2);
+        Texts.fault(HEAD + "once from 2000 1 0", 35, 2);
+        Texts.fault(HEAD + "once from 2000 4 31", 35, 2);
+        Texts.fault(HEAD + "once from 2099 2 29", 35, 2);
+        Texts.fault(HEAD + "once from 2000 1 1 times 0", 43, 2);
+        Texts.fault(HEAD + "once from 2000 1 1 times 1000", 43, 2);
     }
 
     private static void untilAhead() {
-        fault(HEAD + "once from 2023 2 28 until 2023 2 27", 44, 3);
-        fault(HEAD + "once from 2023 2 28 until 2022 12 31 x", 44, 3);
-        fault(HEAD + "once from 2023 2 28 until 1999 1 1", 44, 2);
-        fault(HEAD + "once from 2023 2 28 until 2022 13 1", 49, 2);
-        good(HEAD + "once from 2023 2 28 until 2023 2 28");
+        Texts.fault(HEAD + "once from 2023 2 28 until 2023 2 27", 44, 3);
+        Texts.fault(HEAD + "once from 2023 2 28 until 2022 12 31 x", 44, 3);
+        Texts.fault(HEAD + "once from 2023 2 28 until 1999 1 1", 44, 2);
+        Texts.fault(HEAD + "once from 2023 2 28 until 2022 13 1", 49, 2);
+        Texts.good(HEAD + "once from 2023 2 28 until 2023 2 28");
     }
 
     /** What stood on the tape behind its end is no part of the text. */
