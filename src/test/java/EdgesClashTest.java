@@ -37,6 +37,37 @@ public final class EdgesClashTest {
         Check.due("asked at the last time", x.clash(0, 1, LAST_TIME), LAST_TIME);
     }
 
+    private static void farApart() {
+        Check.says("clash: The first CLASH of two BOOKINGS, of which one starts long behind the other");
+        BookIndex x = two("book 1 at 5 for 1 every 1 days from 2000 1 1", "book 2 at 5 for 1 every 1 days from 2050 1 1");
+        int first = 1440 * x.day(2050, 1, 1) + 5;
+        Check.due("at its start", x.clash(0, 1, 0), first);
+        Check.due("at its start, the other way", x.clash(1, 0, first), first);
+        Check.due("the next day", x.clash(0, 1, first + 1), first + 1440);
+        Check.says("clash: NONE: none near");
+        BookIndex y = two("book 1 at 0 for 4320 once from 2000 1 21", "book 2 at 0 for 1 every 40 days from 2000 1 2");
+        Check.due("one between two far ones", y.clash(0, 1, 0), -1);
+        Check.due("the other way", y.clash(1, 0, 0), -1);
+        BookIndex z = two("book 1 at 0 for 1 every 1 days from 2000 1 1 times 2", "book 2 at 0 for 1 every 1 days from 2000 1 1");
+        z.drop(0, 0);
+        Check.due("the second of two", z.clash(0, 1, 0), 1440);
+        Check.due("behind the second of two", z.clash(0, 1, 1441), -1);
+    }
+
+    /** All changes of both stand where their first clashes would be. */
+    private static void changesInTheWay() {
+        Check.says("clash: The first CLASH, where 16 of each BOOKING are DROPPED");
+        BookIndex x = two("book 1 at 0 for 1 every 3 days from 2000 1 1", "book 2 at 0 for 1 every 2 days from 2000 1 1");
+        for (int i = 0; i < 16; i++) {
+            Check.due("drop of the one " + i, x.drop(0, 12 * i), true);
+            Check.due("drop of the other " + i, x.drop(1, 12 * i + 6), true);
+        }
+        Check.due("the 33rd", x.clash(0, 1, 0), 1440 * 6 * 32);
+        Check.due("counted up to it", x.clashes(0, 1, 0, 6 * 32), 1);
+        x.restore(1, 6 * 31);
+        Check.due("the 32nd, restored", x.clash(0, 1, 0), 1440 * 6 * 31);
+    }
+
     private static void clashRefused() {
         Check.says("clash: NONE: others, none");
         BookIndex x = two("book 1 at 0 for 9 every 1 days from 2000 1 1", "book 1 at 0 for 9 every 1 days from 2000 1 1");
@@ -202,6 +233,8 @@ public final class EdgesClashTest {
 
     public static void main(String[] args) {
         clashAtOrBehind();
+        farApart();
+        changesInTheWay();
         clashRefused();
         clashesCounted();
         clashesRefused();

@@ -118,6 +118,42 @@ public final class EdgesDatesTest {
         Check.due("the last day", all.keys(0, 36524, 36524), 1);
     }
 
+    /** From each day at a key or next to one to each other such day. */
+    private static void windows(String rule, int... keys) {
+        String text = "book 1 at 60 for 1 " + rule;
+        for (int a : keys) {
+            for (int from = a - 1; from <= a + 1; from++) {
+                BookIndex x = Texts.good(text);
+                for (int b : keys) {
+                    for (int to = b - 1; to <= b + 1; to++) {
+                        int want = 0;
+                        for (int key : keys) {
+                            want += from <= key && key <= to ? 1 : 0;
+                        }
+                        boolean due = from >= 0 && from <= to && to <= 36524;
+                        Check.due(rule + ": keys from " + from + " to " + to, x.keys(0, from, to), due ? want : -1);
+                    }
+                }
+            }
+        }
+    }
+
+    private static void keysOfEachRule() {
+        Check.says("keys: from a DAY to another one, both counted, of each RULE");
+        windows("once from 2000 1 11", 10);
+        windows("every 3 days from 2000 1 2 times 5", 1, 4, 7, 10, 13);
+        windows("every 3 weeks tue sat from 2000 1 5 until 2000 3 6", 7, 24, 28, 45, 49);
+        windows("every 1 weeks mon from 2000 1 3 times 4", 2, 9, 16, 23);
+        windows("every 4 weeks sun from 2000 1 1 times 4", 1, 29, 57, 85);
+        windows("every 2 months on 31 from 2000 1 1 times 4", 30, 90, 151, 212);
+        windows("every 1 months end 2 from 2000 1 1 times 4", 29, 58, 89, 119);
+        windows("every 1 months nth 5 sat from 2000 1 1 times 2", 28, 119);
+        windows("every 1 months last tue from 2000 1 1 times 3", 24, 59, 87);
+        windows("every 1 years from 2000 2 29 times 3", 59, 1520, 2981);
+        windows("every 1 days from 2099 12 29", 36522, 36523, 36524);
+        windows("every 1 days from 2000 1 1 times 3", 0, 1, 2);
+    }
+
     private static void onFullAndEmpty() {
         Check.says("key, keys on a full object, on an empty one");
         BookIndex full = Made.full();
@@ -139,6 +175,7 @@ public final class EdgesDatesTest {
         date();
         key();
         keys();
+        keysOfEachRule();
         onFullAndEmpty();
         Check.close();
     }

@@ -127,6 +127,22 @@ public final class EdgesOnTest {
         Check.due("behind the last of 60 days", Check.onAt(x, 1, from, from + SIXTY_DAYS, 62, 1), THROWS);
     }
 
+    private static void keyZero() {
+        Check.says("onAt: KEY 0 at TIME 0 is one of these");
+        BookIndex x = Texts.good("book 1 at 0 for 1 every 1 days from 2000 1 1");
+        Check.due("on", x.on(1, 0, 1), 1);
+        Check.due("its booking", Check.onAt(x, 1, 0, 1, 0, 0), 0);
+        Check.due("its key", Check.onAt(x, 1, 0, 1, 0, 1), 0);
+        Check.due("its time", Check.onAt(x, 1, 0, 1, 0, 2), 0);
+        Check.due("the next one", Check.onAt(x, 1, 0, 1441, 1, 1), 1);
+        x.move(0, 1, 0);
+        x.move(0, 2, 0);
+        Check.due("three at time 0", x.on(1, 0, 1), 3);
+        for (int i = 0; i < 3; i++) {
+            Check.due("key " + i + " of them", Check.onAt(x, 1, 0, 1, i, 1), i);
+        }
+    }
+
     private static void noSuch() {
         BookIndex x = Texts.good("book 1 at 0 for 10 every 1 days from 2000 1 1");
         Check.says("onAt: NoSuchElementException: none such");
@@ -181,6 +197,7 @@ public final class EdgesOnTest {
         refused();
         order();
         begunEarlier();
+        keyZero();
         noSuch();
         onFullAndEmpty();
         Check.close();

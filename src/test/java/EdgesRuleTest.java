@@ -101,6 +101,8 @@ public final class EdgesRuleTest {
         keysAre("every 999 weeks sat sun mon from 2000 1 1", "2000 1 1", "2000 1 2", "2019 2 18", "2019 2 23", "2019 2 24");
         keysAre("every 1 weeks thu from 2099 12 24", "2099 12 24", "2099 12 31", NO_MORE);
         keysAre("every 2 weeks thu from 2099 12 24", "2099 12 24", NO_MORE);
+        keysAre("every 1 weeks mon from 2099 12 28", "2099 12 28", NO_MORE);
+        keysAre("every 1 weeks mon sun from 2099 12 20", "2099 12 20", "2099 12 21", "2099 12 27", "2099 12 28", NO_MORE);
         keysAre("every 1 weeks wed from 2099 12 31", NO_MORE);
         keysAre("every 1 weeks fri from 2099 12 26", NO_MORE);
     }
@@ -209,6 +211,13 @@ public final class EdgesRuleTest {
         keysAre("every 1 years from 2000 2 29 times 2", "2000 2 29", "2004 2 29", NO_MORE);
         keysAre("every 1 days from 2099 12 30 times 999", "2099 12 30", "2099 12 31", NO_MORE);
         keysAre("every 12 months on 30 from 2001 2 1 times 999", NO_MORE);
+        keysAre("every 2 weeks sun thu from 2099 12 13 times 999", "2099 12 13", "2099 12 24", "2099 12 27", NO_MORE);
+        keysAre("every 1 months on 1 from 2099 11 2 times 999", "2099 12 1", NO_MORE);
+        keysAre("every 1 months on 1 from 2099 12 2 times 999", NO_MORE);
+        keysAre("every 1 months end 1 from 2099 11 1 times 999", "2099 11 30", "2099 12 31", NO_MORE);
+        keysAre("every 1 months nth 1 fri from 2099 11 1 times 999", "2099 11 6", "2099 12 4", NO_MORE);
+        keysAre("every 1 months last fri from 2099 11 1 times 999", "2099 11 27", "2099 12 25", NO_MORE);
+        keysAre("every 1 years from 2098 1 1 times 999", "2098 1 1", "2099 1 1", NO_MORE);
         BookIndex x = Texts.good(HEAD + "every 1 days from 2000 1 1 times 999");
         Check.due("999 of them", x.keys(0, 0, 36524), 999);
         Check.due("the 999th", x.key(0, 998), 998);

@@ -235,6 +235,59 @@ public final class EdgesShelfTest {
         Check.due("the other image", x.of(0, 10), 0);
     }
 
+    /** Bookings of every rule are as in an image, though others stood in their places in between. */
+    private static void imageOfEachRule() {
+        Check.says("back: They are as in an IMAGE (all that of tells)");
+        String[] rules = {"once", "every 2 days", "every 2 weeks mon sat", "every 1 months on 5", "every 1 months end 5",
+            "every 1 months nth 2 wed", "every 1 months last wed", "every 1 years"};
+        String[] spans = {"", " times 9", " until 2010 6 7"};
+        BookIndex x = new BookIndex();
+        int[][] want = new int[rules.length][15];
+        for (int b = 0; b < rules.length; b++) {
+            Check.book(x, "book " + b + " at " + b + " for " + (b + 1) + " " + rules[b] + " from 2000 1 " + (b + 2) + spans[b % 3]);
+            x.drop(b, x.of(b, 12));
+            for (int what = 0; what <= 13; what++) {
+                want[b][what] = x.of(b, what);
+            }
+            want[b][14] = x.next(b, 0, 0);
+        }
+        x.image(0);
+        for (int b = 0; b < rules.length; b++) {
+            x.cancel(0);
+            Check.book(x, "book 7 at 99 for 99 every 9 days from 2050 1 1 times 99");
+        }
+        Check.due("back", x.back(0), true);
+        for (int b = 0; b < rules.length; b++) {
+            for (int what = 0; what <= 13; what++) {
+                Check.due(rules[b] + ": of " + what, x.of(b, what), want[b][what]);
+            }
+            Check.due(rules[b] + ": next", x.next(b, 0, 0), want[b][14]);
+            Check.due(rules[b] + ": keys", x.keys(b, want[b][12], want[b][13]), x.keys(b, 0, 36524));
+        }
+    }
+
+    /** A split behind back goes by what the image holds. */
+    private static void splitBehindBack() {
+        Check.says("back, then SPLIT: how many KEYS are ahead of it, and how many from it on");
+        BookIndex x = Texts.good(DAILY);
+        x.split(0, 30);
+        x.image(1);
+        x.cancel(1);
+        x.cancel(0);
+        Check.book(x, "book 1 at 0 for 1 every 9 days from 2001 1 1 times 3");
+        Check.book(x, "book 1 at 0 for 1 once from 2001 1 1");
+        x.back(1);
+        Check.due("the new one split again", x.split(1, 40), 2);
+        Check.due("ten ahead", x.of(1, 9), 10);
+        Check.due("ten from it on", x.of(2, 9), 10);
+        Check.due("its first key", x.of(1, 12), 30);
+        Check.due("the new one's first key", x.of(2, 12), 40);
+        Check.due("the new one's last key", x.of(2, 13), 49);
+        Check.due("the first one split again", x.split(0, 11), 3);
+        Check.due("one ahead", x.of(0, 9), 1);
+        Check.due("nineteen from it on", x.of(3, 9), 19);
+    }
+
     private static void imageAndTape() {
         Check.says("back: BOOKINGS are as in an IMAGE (the TAPE is as it was)");
         BookIndex x = Texts.good(DAILY);
@@ -287,6 +340,8 @@ public final class EdgesShelfTest {
         image();
         imageOfFull();
         imageStays();
+        imageOfEachRule();
+        splitBehindBack();
         imageAndTape();
         told();
         Check.close();

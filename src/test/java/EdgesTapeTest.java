@@ -183,6 +183,18 @@ public final class EdgesTapeTest {
         Check.due("another still", Check.book(x, "book 1 at 0 for 1 every 1 days from 2000 1 1"), 1);
         Check.due("no times of it", x.of(1, 9), -1);
         Check.due("its last key", x.of(1, 13), 36524);
+        BookIndex y = new BookIndex();
+        for (String month : new String[] {"5", "1", "9"}) {
+            Check.due("in month " + month, Check.book(y, "book 1 at 0 for 1 every 1 days from 2000 " + month + " 1"), 0);
+            Check.due("its first key", y.of(0, 12), y.day(2000, Integer.parseInt(month), 1));
+            y.cancel(0);
+        }
+        Check.book(y, "book 1 at 0 for 1 every 1 days from 2000 1 1");
+        y.split(0, 50);
+        y.cancel(1);
+        Check.due("where one was split off", Check.book(y, "book 1 at 0 for 1 every 1 days from 2000 1 2 times 9"), 1);
+        Check.due("its first key", y.of(1, 12), 1);
+        Check.due("its last key", y.of(1, 13), 9);
     }
 
     private static void cancel() {

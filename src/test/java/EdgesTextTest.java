@@ -1,4 +1,5 @@
 import java.time.YearMonth;
+import java.util.List;
 
 /** Terms, part 1: the bounds of all that a text tells, and every kind and place of a fault. */
 public final class EdgesTextTest {
@@ -170,6 +171,8 @@ public final class EdgesTextTest {
             Texts.faultAt("book ^" + sign + "1 at", 1);
         }
         Texts.faultAt("^zbook 1", 1);
+        Texts.faultAt("^bookz 1", 1);
+        Texts.faultAt("^booka 1", 1);
         Texts.faultAt("^abook 1", 1);
         Texts.faultAt("^BOOK 1", 1);
     }
@@ -258,6 +261,22 @@ public final class EdgesTextTest {
         }
     }
 
+    /** Every word but a weekday of several is left out: what stands behind it can't stand there. */
+    private static void leftOut() {
+        Check.says("FAULT 1: what can't stand there (its place), a TOKEN left out ahead of it");
+        for (String whole : WHOLE) {
+            String[] tokens = whole.split(" ");
+            boolean several = whole.contains("weeks");
+            for (int i = 0; i < tokens.length; i++) {
+                boolean weekday = List.of("tue", "sun", "mon").contains(tokens[i]);
+                if (!isNumber(tokens[i]) && !(several && weekday)) {
+                    int place = placeOf(tokens, i);
+                    Texts.fault(whole.substring(0, place) + whole.substring(placeOf(tokens, i + 1)), place, 1);
+                }
+            }
+        }
+    }
+
     /** Each two tokens of a text are wrong ones: the first of them is told. */
     private static void firstAlongTheText() {
         Check.says("FAULT, the first along the text");
@@ -327,6 +346,7 @@ public final class EdgesTextTest {
         digits();
         cutShort();
         wrongTokens();
+        leftOut();
         firstAlongTheText();
         leastOfOneToken();
         spans();

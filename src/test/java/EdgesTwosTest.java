@@ -94,6 +94,13 @@ public final class EdgesTwosTest {
         Check.due("first key of the new one", x.of(2, 12), 19);
         Check.due("no key from it on", x.key(0, 18), -1);
         Check.due("no key ahead of it", x.keys(2, 0, 18), 0);
+        Check.says("Its KEYS (of the new one of a SPLIT: from the DAY of that on)");
+        Check.due("none ahead of its first", x.ahead(2, 1440 * 2 + 5, 1), -1);
+        Check.due("it has none on a day ahead", x.count(2, 3, 18), 0);
+        Check.due("a key ahead is not dropped", x.drop(2, 17), false);
+        Check.due("nor moved", x.move(2, 17, 5), false);
+        Check.due("a key from it on is not dropped of the first", x.drop(0, 19), false);
+        Check.says("SPLIT at a DAY: the BOOKING has KEYS ahead of it alone, a new one (at the end) those from it on");
         BookIndex y = changed(span);
         Check.due("split off the keys", y.split(0, 18), 1);
         Check.due("last key then", y.of(0, 13), 17);
@@ -146,6 +153,24 @@ public final class EdgesTwosTest {
         BookIndex y = Texts.good(HEAD + "every 10 days from 2000 1 1");
         y.split(0, 15);
         Check.due("the next tenth day", y.of(1, 12), 20);
+    }
+
+    /** Without changes, so that only the rule tells what is ahead. */
+    private static void aheadOfTheNewOne() {
+        Check.says("Its KEYS (of the new one of a SPLIT: from the DAY of that on)");
+        String[] rules = {"every 2 days", "every 1 weeks mon sat", "every 1 months on 5", "every 1 months end 5",
+            "every 1 months nth 2 wed", "every 1 months last wed", "every 1 years"};
+        for (String rule : rules) {
+            BookIndex x = Texts.good("book 5 at 7 for 9 " + rule + " from 2000 1 2");
+            Check.due(rule + ": split", x.split(0, 20000), 1);
+            int first = x.of(1, 12);
+            Check.due(rule + ": not ahead of the day", first >= 20000, true);
+            Check.due(rule + ": none ahead of its first", x.ahead(1, 1440 * first + 7, 0), -1);
+            Check.due(rule + ": its first", x.ahead(1, 1440 * first + 8, 1), first);
+            Check.due(rule + ": none behind the last of the other", x.next(0, 1440 * 20000, 0), -1);
+            Check.due(rule + ": the last of the other", x.ahead(0, 52595999, 1), x.of(0, 13));
+            Check.due(rule + ": no key of both", x.keys(0, 20000, 36524) + x.keys(1, 0, 19999), 0);
+        }
     }
 
     private static void splitTimes() {
@@ -298,6 +323,7 @@ public final class EdgesTwosTest {
         splitChanges(" times 100");
         splitChanges(" until 2001 1 1");
         splitTells();
+        aheadOfTheNewOne();
         splitTimes();
         splitUntil();
         splitBothHaveKeys();
