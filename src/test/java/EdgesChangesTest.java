@@ -227,6 +227,18 @@ public final class EdgesChangesTest {
         Check.due("and not of 0", early.ahead(0, 0, 0), -1);
     }
 
+    private static void someDropped() {
+        Check.says("next, ahead: of DROPPED ones next to each other there is no OCCURRENCE");
+        BookIndex x = Texts.good("book 1 at 60 for 30 every 1 days from 2000 1 11 times 16");
+        for (int i = 0; i < 7; i++) {
+            x.drop(0, 10 + i);
+            Check.due("next of " + (i + 1) + " dropped", x.next(0, 0, 1), 11 + i);
+            x.drop(0, 25 - i);
+            Check.due("ahead of " + (i + 1) + " dropped", x.ahead(0, LAST_TIME, 1), 24 - i);
+        }
+        Check.due("two are left", x.count(0, 0, 36524), 2);
+    }
+
     private static void allDropped() {
         Check.says("next, ahead: NONE: none");
         BookIndex x = Texts.good("book 1 at 60 for 30 every 1 days from 2000 1 11 times 16");
@@ -305,6 +317,7 @@ public final class EdgesChangesTest {
         restoreAmongOthers();
         next();
         ahead();
+        someDropped();
         allDropped();
         count();
         onFullAndEmpty();

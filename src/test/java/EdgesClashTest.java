@@ -104,6 +104,11 @@ public final class EdgesClashTest {
         Check.due("in a day's first minute", x.clashes(0, 1, 20, 20), 1);
         Check.due("not the day ahead", x.clashes(0, 1, 19, 19), 0);
         Check.says("clashes: How many twos");
+        for (int key = 10; key <= 12; key++) {
+            x.move(0, key, 1440 * 20);
+            x.move(1, key, 1440 * 20);
+        }
+        Check.due("three of each at one time", x.clashes(0, 1, 20, 20), 9);
         BookIndex y = two("book 1 at 0 for 4320 every 1 days from 2000 1 11 times 3",
                 "book 2 at 1439 for 4320 every 1 days from 2000 1 11 times 3");
         // all six are on from day 12's last minute to day 13

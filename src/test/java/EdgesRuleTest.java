@@ -193,6 +193,11 @@ public final class EdgesRuleTest {
         keysAre("once from 2000 1 1 until 2099 12 31", "2000 1 1", NO_MORE);
         keysAre("every 2 weeks mon from 2000 1 2 until 2000 1 9", NO_MORE);
         keysAre("every 2 weeks mon from 2000 1 2 until 2000 1 10", "2000 1 10", NO_MORE);
+        keysAre("every 3 weeks tue sun from 2000 1 5 until 2000 1 20", "2000 1 9", NO_MORE);
+        keysAre("every 3 weeks tue sun from 2000 1 5 until 2000 1 24", "2000 1 9", NO_MORE);
+        keysAre("every 3 weeks tue sun from 2000 1 5 until 2000 1 25", "2000 1 9", "2000 1 25", NO_MORE);
+        keysAre("every 3 weeks tue sun from 2000 1 5 until 2000 1 29", "2000 1 9", "2000 1 25", NO_MORE);
+        keysAre("every 1 weeks sat from 2000 1 1 until 2000 1 1", "2000 1 1", NO_MORE);
         keysAre("every 1 months on 31 from 2001 4 1 until 2001 5 30", NO_MORE);
         keysAre("every 1 months on 31 from 2001 4 1 until 2001 5 31", "2001 5 31", NO_MORE);
         keysAre("every 1 months end 1 from 2001 1 1 until 2001 2 27", "2001 1 31", NO_MORE);

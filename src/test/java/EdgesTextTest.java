@@ -129,6 +129,14 @@ public final class EdgesTextTest {
             Texts.faultAt(HEAD + "every 1 weeks " + name + " ^" + name + FROM, 2);
             Texts.faultAt(HEAD + "every 1 weeks" + all + " ^" + name + FROM, 2);
         }
+        Check.says("FAULT 1: a word that is none told here (no WEEKDAY)");
+        for (String word : new String[] {"mo", "mond", "monday", "m", "nmo", "ont", "ue", "montue", "sunday", "un", "xyz"}) {
+            Texts.faultAt(HEAD + "every 1 weeks ^" + word + FROM, 1);
+            Texts.faultAt(HEAD + "every 1 weeks wed ^" + word + FROM, 1);
+            Texts.faultAt(HEAD + "every 1 months nth 1 ^" + word + FROM, 1);
+            Texts.faultAt(HEAD + "every 1 months last ^" + word + FROM, 1);
+        }
+        Check.says("FAULT 2: a WEEKDAY told twice (at it)");
         Texts.faultAt(HEAD + "every 1 weeks mon tue wed ^tue tue mon", 2);
     }
 
@@ -271,7 +279,10 @@ public final class EdgesTextTest {
                 boolean weekday = List.of("tue", "sun", "mon").contains(tokens[i]);
                 if (!isNumber(tokens[i]) && !(several && weekday)) {
                     int place = placeOf(tokens, i);
-                    Texts.fault(whole.substring(0, place) + whole.substring(placeOf(tokens, i + 1)), place, 1);
+                    String left = whole.substring(0, place) + whole.substring(Math.min(placeOf(tokens, i + 1), whole.length()));
+                    Texts.fault(left, place, 1);
+                    Texts.fault(left + "#", place, 1);
+                    Texts.fault(left + " until 1999 1 1", place, 1);
                 }
             }
         }
