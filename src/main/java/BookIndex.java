@@ -474,16 +474,18 @@ public final class BookIndex {
         int last = lastKeyToTry(few, many, time);
         int key = few.keyFrom(Math.max(time / MINUTES, many.firstKey) - REACH);
         for (int i = 0; i <= LAST_DAY && key != NONE && key <= last && few.timeOf(key) < first; i++) {
-            int near = many.keyFrom(key - REACH);
+            int begin = few.timeOf(key);
+            int near = many.keyFrom(many.ruledFrom(begin - many.length + 1));
             if (near == NONE) {
                 return first;
             }
-            if (near > key + REACH) {
-                key = few.keyFrom(near - REACH);
+            int reaching = few.ruledFrom(many.timeOf(near) - few.length + 1);
+            if (reaching > key) {
+                key = few.keyFrom(reaching);
                 continue;
             }
             if (few.changeOf(key) == NONE) {
-                first = Math.min(first, many.meet(few.timeOf(key), few.length, time));
+                first = Math.min(first, many.meet(begin, few.length, time));
             }
             key = few.keyFrom(key + 1);
         }
@@ -1047,7 +1049,7 @@ public final class BookIndex {
         }
 
         /** The first KEY of which the TIME, as the RULE has it, is not ahead of one. */
-        private int ruledFrom(int time) {
+        int ruledFrom(int time) {
             return Math.floorDiv(time - minute + MINUTES - 1, MINUTES);
         }
 

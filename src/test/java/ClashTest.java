@@ -116,6 +116,18 @@ public final class ClashTest {
         Check.due("days 3 to 9", x.clashes(0, 1, 3, 9), 1);
     }
 
+    /** A clash of moved ones bounds what is looked for along the rules, and must not hide it. */
+    private static void movedToo() {
+        BookIndex x = two("book 0 at 10 for 2 every 2 days from 2000 1 1 times 4", "book 1 at 10 for 5 every 1 days from 2000 1 1 times 9");
+        x.move(1, 5, 11);
+        Check.due("a minute ahead of a moved one's", x.clash(0, 1, 0), 10);
+        Check.due("the moved one's", x.clash(0, 1, 11), 11);
+        BookIndex y = two("book 0 at 0 for 1 every 10 days from 2000 1 1 times 9", "book 1 at 1 for 1 every 1 days from 2000 1 1 times 20");
+        y.move(0, 80, Check.time(100, 7));
+        y.move(1, 19, Check.time(100, 7));
+        Check.due("moved ones behind the last key of one", y.clash(0, 1, 0), Check.time(100, 7));
+    }
+
     private static void room() {
         BookIndex x = new BookIndex();
         Check.book(x, "book 4 at 0 for 10 once from 2000 1 9");
@@ -146,6 +158,7 @@ public final class ClashTest {
         spoilt();
         minutes();
         begunEarlier();
+        movedToo();
         room();
         Check.close();
     }
